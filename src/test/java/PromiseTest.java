@@ -268,7 +268,7 @@ public final class PromiseTest {
         fault("c1;s0 1;w0,0,0,0,0,0;w0;w0;w0;w0;w0;w0;", 3, 36);
         fault("c1;s0 1;s0 1;s0 1;s0 1;s0 1;s0 1;s0 1;s0 1;s0 1;", 3, 43);
         fault("c1;s0 1;s0 1;s0 1;s0 1;s0 1;s0 1;s0 1;s0 1 s", 1, 43);
-        HandedLens x = of(" c 0 9 9 ;".replace("0 9 9", "099") + " s 3 099 ; s 000 1 ;w 0 , 001 ,0,0,0 ,1 ; s1 7;w2;");
+        HandedLens x = of(" c 099 ; s 3 099 ; s 000 1 ;w 0 , 001 ,0,0,0 ,1 ; s1 7;w2;");
         due("told(0)", x.told(0), 99);
         due("told(1)", x.told(1), 3);
         due("told(2)", x.told(2), 2);
