@@ -59,13 +59,18 @@ final class Lens {
     /** The answer is due, and nothing is changed by the call: so for what is refused, and for what is asked. */
     Lens asks(String call, int want) {
         Sheet.due(call, callNow(call), want);
+        changeNothing(List.of(call));
+        return this;
+    }
+
+    /** Nothing is changed by all of these calls together. */
+    void changeNothing(List<String> all) {
         for (int f = 0; f < FOLLOWING.length; f++) {
             if (known.size() == f) {
-                known.add(follow(null, f));
+                known.add(follow(List.of(), f));
             }
-            sameAs(known.get(f), follow(call, f), "what is so behind " + call + String.join(" ", FOLLOWING[f]));
+            sameAs(known.get(f), follow(all, f), String.join(" ", FOLLOWING[f]) + " behind " + String.join(" ", all));
         }
-        return this;
     }
 
     /** The answer is due; that the call changes nothing is shown elsewhere. */
@@ -132,18 +137,18 @@ final class Lens {
         }
     }
 
-    /** On a new object: all that was done, the call, if there is one, and what follows; with what is told then. */
-    private List<Integer> follow(String call, int f) {
+    /** On a new object: all that was done, the calls, and what follows; with what is told then. */
+    private List<Integer> follow(List<String> all, int f) {
         Lens twin = again();
-        if (call != null) {
+        for (String call : all) {
             twin.callNow(call);
         }
-        List<Integer> all = new ArrayList<>();
+        List<Integer> answers = new ArrayList<>();
         for (String next : FOLLOWING[f]) {
-            all.add(twin.callNow(next.replace("ALL", Integer.toString(twin.callNow("told(15)")))));
+            answers.add(twin.callNow(next.replace("ALL", Integer.toString(twin.callNow("told(15)")))));
         }
-        all.addAll(twin.told());
-        return all;
+        answers.addAll(twin.told());
+        return answers;
     }
 
     /** The same on a new object. */

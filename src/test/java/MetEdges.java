@@ -27,6 +27,7 @@ public final class MetEdges {
         drift();
         driftIsRefused();
         undone();
+        undoneWithAllFull();
         undoneThirty();
         undoneSince();
         undoneSeedStays();
@@ -59,6 +60,14 @@ public final class MetEdges {
         // all but 2, of 90, are taken for 1: of these one has met either 1, or not 1
         x.does("chip(1, 46)", 1).asks("couldBe()", 255).does("meet(1, true)", 1).asks("couldBe()", 251).does("tear()", 1).does("meet(1, false)", 1).asks("couldBe()", 4);
         x.does("tear()", 1).does("meet(0, true)", 1).asks("couldBe()", 0);
+        // the sixth that is met counts as the first does
+        Lens six = Lens.of("c2;s2 9;s2 8;s2 7;s2 6;s2 5;s2 4;s2 3;s2 2;");
+        int left = 255;
+        for (int n = 0; n < 6; n++) {
+            left &= ~(1 << n);
+            six.does("meet(" + n + ", false)", n + 1).asks("couldBe()", left);
+        }
+        six.asks("ask()", 6);
     }
 
     private static void pairAsItIsNow() {
@@ -268,6 +277,9 @@ public final class MetEdges {
         int seed = seedFor(0, 1, 0, 1, 0);
         Lens one = Lens.of("c50;s2 9;w0;");
         one.does("seed(" + seed + ")", 0).does("drift(1)", 1).is("told(5)", 0).does("seed(0)", next(next(seed)));
+        int chipping = seedFor(2, 1, 0, 30, 7);
+        Lens lone = Lens.of("c50;s2 9;");
+        lone.does("seed(" + chipping + ")", 0).does("drift(1)", 1).strengths(8).layer(0, 0, NONE, 8).does("seed(0)", next(next(next(chipping))));
         int wiping = seedFor(1, 1, 0, 1, 0);
         Lens last = Lens.of("c50;s2 9;w0;");
         last.calls("chip(0, 9)", "seed(" + wiping + ")");
@@ -328,6 +340,29 @@ public final class MetEdges {
         Lens other = after[3].again();
         other.calls("meet(0, true)", "write(1, 1)", "feed(99)");
         other.is("told(15)", 3).does("undo(3)", 0).is("told(13)", 1).is("told(14)", 1).is("told(3)", 1).does("tear()", 2).is("told(15)", 0);
+    }
+
+    private static void undoneWithAllFull() {
+        Sheet.holds("all of section 2 is as ahead of them;");
+        // ten layers, the tenth of another scene and of the sixth wearer, and a full log
+        Lens x = Lens.of("c50;s2 9;s2 8;w0;w0;w0;w0;w0;w1;");
+        for (int n = 1; n <= 9; n++) {
+            x.call("chip(0, " + (40 + n) + ")");
+        }
+        x.calls("wear(5)", "year(25)");
+        Lens y = x.again();
+        x.layer(9, 1, 5, 25).is("told(6)", 10).is("told(12)", 20);
+        x.calls("wipe(9)", "chip(0, 60)", "wear(4)", "year(21)");
+        x.does("undo(24)", 25).layer(9, 1, 5, 25).is("wearer(5, 1)", 25).is("wearer(4, 1)", 0).is("told(5)", 5);
+        for (int i = 0; i < 20; i++) {
+            x.logged(i, 24 - i, 5, 1, 0);
+        }
+        y.does("keep(0)", 1);
+        y.calls("wipe(9)", "chip(0, 60)", "wear(4)", "year(21)");
+        y.does("goBack(0)", 1).layer(9, 1, 5, 25).is("wearer(5, 1)", 25).is("wearer(4, 1)", 0).is("told(5)", 5);
+        for (int i = 0; i < 20; i++) {
+            y.logged(i, 24 - i, 5, 1, 0);
+        }
     }
 
     private static void undoneThirty() {

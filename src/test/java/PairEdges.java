@@ -153,13 +153,13 @@ public final class PairEdges {
 
     private static void tenLayers() {
         Sheet.holds("if there are 10, the weakest one goes ahead of that (of like ones the lowest).");
-        Lens x = chips("c9;s2 9;s2 8;", 9, 8, 7, 6, 5, 5, 6, 7, 8);
-        x.is("told(6)", 9).does("chip(0, 9)", 10).strengths(9, 8, 7, 6, 5, 5, 6, 7, 8, 9);
-        x.does("chip(1, 50)", 10).strengths(9, 8, 7, 6, 5, 6, 7, 8, 9, 50).layer(9, 1, NONE, 50);
-        x.does("chip(1, 1)", 10).strengths(9, 8, 7, 6, 6, 7, 8, 9, 50, 1);
+        Lens x = chips("c9;s2 9;s2 8;", 9, 8, 5, 6, 7, 5, 6, 5, 8);
+        x.is("told(6)", 9).does("chip(0, 9)", 10).strengths(9, 8, 5, 6, 7, 5, 6, 5, 8, 9);
+        x.does("chip(1, 50)", 10).strengths(9, 8, 6, 7, 5, 6, 5, 8, 9, 50).layer(9, 1, NONE, 50);
+        x.does("chip(1, 1)", 10).strengths(9, 8, 6, 7, 6, 5, 8, 9, 50, 1);
         // it goes ahead of that: what is laid is not weighed, the weakest that was there goes
-        x.does("chip(0, 2)", 10).strengths(9, 8, 7, 6, 6, 7, 8, 9, 50, 2);
-        x.does("undo(1)", 0).strengths(9, 8, 7, 6, 6, 7, 8, 9, 50, 1);
+        x.does("chip(0, 2)", 10).strengths(9, 8, 6, 7, 6, 5, 8, 9, 50, 2);
+        x.does("undo(1)", 0).strengths(9, 8, 6, 7, 6, 5, 8, 9, 50, 1);
         Lens like = chips("c9;s2 9;s2 8;", 99, 99, 99, 99, 99, 99, 99, 99, 99, 99);
         like.does("chip(1, 1)", 10).strengths(99, 99, 99, 99, 99, 99, 99, 99, 99, 1).does("chip(1, 99)", 10).layer(9, 1, NONE, 99).layer(8, 0, NONE, 99);
         Lens ends = chips("c9;s2 9;", 1, 3, 3, 3, 3, 3, 3, 3, 3, 2);
@@ -173,6 +173,9 @@ public final class PairEdges {
         // there are ten: his own of the year ahead is the weakest and goes for that of this year
         x.does("year(1)", 2).strengths(9, 9, 4, 9, 4, 9, 9, 9, 9, 1).layer(9, 0, 0, 1);
         x.does("year(1)", 3).strengths(9, 9, 4, 9, 4, 9, 9, 9, 9, 3).layer(9, 1, 0, 3);
+        Lens lowest = chips("c9;s2 9;s2 28;w1;", 9, 4, 8, 4, 9, 4, 9, 9, 9, 9);
+        lowest.calls("wear(0)", "year(1)");
+        lowest.strengths(9, 8, 4, 9, 4, 9, 9, 9, 9, 3).layer(9, 1, 0, 3);
         Sheet.holds("Then his LAYER of that SCENE, if he has one, is stronger by BRIGHT / 10, and 1 (99 at most);");
         // there are ten and he has one: none goes
         Lens y = chips("c9;s2 9;s2 28;w1;", 9, 9, 4, 9, 4, 9, 9, 9, 9);
@@ -222,6 +225,10 @@ public final class PairEdges {
             x.is("logged(" + i + ", 2)", six[i]);
         }
         x.is("wearer(2, 1)", 13);
+        // the sixth one too
+        Lens sixth = Lens.of("c50;s2 9;s2 8;w0;w0;w0;w0;w0;w0,1,1;");
+        sixth.calls("wear(5)", "year(4)");
+        sixth.is("wearer(5, 1)", 4).is("wearer(5, 4)", 1).logged(0, 3, 5, 0, 0).logged(1, 2, 5, 1, 1);
     }
 
     private static void theLog() {

@@ -28,6 +28,7 @@ public final class TextEdges {
         theLeast();
         emptyText();
         becomesTheLine();
+        lineBehindLine();
         faultLeavesAll();
         letterOfTheLatest();
         Sheet.end();
@@ -105,6 +106,7 @@ public final class TextEdges {
         fault("c7;" + times(" ", 236) + "x", 1, 239);
         fault("c7;" + times(" ", 236) + "c", 3, 239);
         fault("c7" + times(" ", 238), 1, 240);
+        fault("c7;" + times(" ", 232) + "s0 12", 1, 240);
         good("c7" + times(" ", 237) + ";", 0);
     }
 
@@ -388,6 +390,26 @@ public final class TextEdges {
         x.asks("goBack(0)", NOT).asks("undo(1)", NOT).does("seed(0)", 11);
         // a text that tells the pair alone is a line
         good("c1;", 0).does("year(1)", 1).does("drift(1)", 2);
+        // blanks may stand anywhere, so a text of blanks alone tells as much as an empty one
+        good(" ", 0).is("told(0)", 0).asks("year(1)", NOT);
+        good(times(" ", 240), 0).is("told(0)", 0).is("told(3)", 0).asks("year(1)", NOT);
+    }
+
+    private static void lineBehindLine() {
+        Sheet.holds("THE TEXT (it is empty then, with a FAULT, too) becomes THE LINE");
+        // nothing of an earlier text is left, of one with a fault neither
+        Lens x = Lens.of("c5;s2 9;s1 8;w0,1,0;w1,1;w0;w0;w0;w0,1,1,1,1,0;");
+        x.calls("wear(5)", "year(3)");
+        x.is("wearer(5, 1)", 3);
+        String[] texts = {"c6;s3 7;w0;", "c7;s0 6;w0,0;w0,0,0;", "c8;s1 5;s1 4;w1,1,1,1,1,1;w9;", "c9;s2 3;w0;w0,0,0;w0;w0;w0;w0,0;"};
+        int[][] looks = {{1}, {2, 3}, {2, 3}, {1, 3, 1, 1, 1, 2}};
+        for (int i = 0; i < texts.length; i++) {
+            x.feed(texts[i]);
+            x.does("line()", i == 2 ? -12 : 1).is("told(2)", looks[i].length).is("told(0)", i == 2 ? 7 : 6 + i).is("told(1)", 1);
+            for (int w = 0; w < looks[i].length; w++) {
+                x.is("wearer(" + w + ", 0)", looks[i][w]).is("wearer(" + w + ", 1)", 0).is("wearer(" + w + ", 4)", 0);
+            }
+        }
     }
 
     private static void becomesTheLine() {

@@ -28,6 +28,7 @@ public final class TriedEdges {
         orderOfLikeOnes();
         orderByYearsFromNow();
         orderOfFive();
+        orderByAllOrders();
         orderIsRefused();
         nextSight();
         saw();
@@ -148,6 +149,8 @@ public final class TriedEdges {
         x.asks("willShow(0, 0)", 76).asks("willShow(1, 0)", 7).asks("willShow(2, 0)", 0).asks("willShow(2, 60)", 0);
         x.asks("willShow(0, 1)", 78).asks("willShow(1, 60)", 7);
         x.does("takeOff()", 1).asks("willShow(0, 1)", 73).asks("willShow(0, 3)", 67).asks("willShow(0, 4)", 65).asks("willShow(0, 59)", 10).asks("willShow(0, 60)", 9);
+        // all ten
+        chips("c2;s2 9;s2 8;", 0, 1, 1, 2, 0, 3, 1, 4, 0, 5, 1, 6, 0, 7, 1, 8, 0, 9, 1, 10).asks("willShow(0, 0)", 25).asks("willShow(1, 60)", 30);
         x.does("wear(0)", NONE).asks("willShow(1, 2)", 8).asks("willShow(1, 3)", 8).asks("willShow(1, 4)", 9).asks("willShow(1, 60)", 37);
     }
 
@@ -245,6 +248,9 @@ public final class TriedEdges {
         // its own scene too is seen through that layer only if it is strong enough
         Lens own = chips("c10;s2 30;", 0, 20);
         own.asks("only(0, 0)", NONE).does("chip(0, 21)", 2).asks("only(1, 0)", 0).asks("only(0, 0)", NONE);
+        // 10 and 21 have 15 as their half when cut
+        Lens cut = chips("c10;s2 30;s2 21;", 0, 15, 0, 16);
+        cut.asks("only(0, 1)", NONE).asks("only(1, 1)", 0);
         Lens ten = chips("c2;s2 9;", 0, 50, 0, 50, 0, 50, 0, 50, 0, 50, 0, 50, 0, 50, 0, 50, 0, 50, 0, 50);
         ten.asks("only(0, 0)", 9).asks("only(9, 0)", 0).asks("only(5, 0)", 4);
     }
@@ -324,6 +330,44 @@ public final class TriedEdges {
         x.asks("order(28, 0)", 1).asks("order(28, 1)", 354);
     }
 
+    /** Each order is done on a twin, with wear() and year(1): none may be darker behind it than the one that is told. */
+    private static void orderByAllOrders() {
+        Sheet.holds("by which DARK behind them is least:");
+        Lens x = Lens.of("c9;s0 99;s3 14;s3 50;s2 16;s1 30;w3;w4,1;w1;w0,2;w2;w4;");
+        int[] sets = {31, 59, 62, 30, 21, 7, 38, 20, 33};
+        for (String deed : new String[] {"chip(0, 1)", "year(1)", "wear(3)", "year(1)", "chip(4, 33)", "chip(2, 12)"}) {
+            x.call(deed);
+            for (int set : sets) {
+                int[] best = {Integer.MAX_VALUE, 0};
+                everyOrder(x, set, 0, "", best);
+                x.is("order(" + set + ", 0)", best[0]).is("order(" + set + ", 1)", best[1]);
+            }
+        }
+        // only by the last of all orders the strong one of kind 3 goes in two odd years
+        Lens last = chips("c10;s0 99;s3 14;s3 50;s2 16;s1 3;w3;w4;w1;w0;w2;", 0, 1);
+        last.asks("order(31, 0)", 0).asks("order(31, 1)", 54321);
+    }
+
+    private static void everyOrder(Lens x, int left, int figures, String order, int[] best) {
+        if (left == 0) {
+            Lens twin = x.again();
+            for (int i = 0; i < order.length(); i++) {
+                twin.calls("wear(" + order.charAt(i) + ")", "year(1)");
+            }
+            int dark = twin.call("told(7)");
+            if (dark < best[0] || dark == best[0] && figures < best[1]) {
+                best[0] = dark;
+                best[1] = figures;
+            }
+            return;
+        }
+        for (int w = 0; w < 6; w++) {
+            if ((left >> w & 1) == 1) {
+                everyOrder(x, left & ~(1 << w), figures * 10 + w + 1, order + w, best);
+            }
+        }
+    }
+
     private static void orderIsRefused() {
         Sheet.holds("`int order(int set, int what)`: ORDER: what = 0 how much, 1 the figures. UNKNOWN, OUTSIDE, NOT: fewer than two, more than five.");
         Lens x = Lens.of("c2;s2 9;w0;w0;w0;w0;w0;w0;");
@@ -356,6 +400,9 @@ public final class TriedEdges {
         x.asks("wearer(0, 2)", 0).does("chip(0, 5)", 1).asks("wearer(0, 2)", 0).does("wear(0)", NONE).does("year(3)", 3).asks("wearer(0, 2)", 7).asks("wearer(1, 2)", 0);
         // what he saw and what has faded, or was wiped, he has no more
         x.does("year(1)", 4).asks("wearer(0, 2)", 5).does("wipe(1)", 2).asks("wearer(0, 2)", 1);
+        // the tenth layer too
+        Lens tenth = chips("c50;s2 9;s2 8;w1;", 0, 5, 0, 5, 0, 5, 0, 5, 0, 5, 0, 5, 0, 5, 0, 5, 0, 5);
+        tenth.does("wear(0)", NONE).does("year(1)", 1).asks("told(6)", 10).asks("wearer(0, 2)", 2).asks("told(8)", 2);
     }
 
     private static void seenByAll() {
