@@ -46,6 +46,7 @@ public final class MetEdges {
             x.does("meet(" + n % 2 + ", " + (n % 2 == 0) + ")", n).is("told(13)", n);
         }
         x.asks("meet(0, true)", FULL).asks("meet(1, false)", FULL).asks("meet(2, true)", UNKNOWN).asks("meet(-1, false)", UNKNOWN).is("told(13)", 6);
+        Sheet.holds("MET (6 at most):");
         x.is("told(15)", 0).does("tear()", 6).does("meet(1, true)", 1);
         // the same may be met again
         x.does("meet(1, true)", 2).is("told(13)", 2).is("couldBe()", 2);
@@ -54,6 +55,7 @@ public final class MetEdges {
     private static void couldBe() {
         Sheet.holds("COULD BE: SCENES (a SET) by which all that is MET is so.");
         Lens.of("c2;").asks("couldBe()", 0);
+        Sheet.holds("`int couldBe()`: COULD BE.");
         Lens x = Lens.of("c2;s2 9;s2 8;s2 90;s2 7;s2 6;s2 5;s2 4;s2 3;");
         x.asks("couldBe()", 255).does("meet(7, false)", 1).asks("couldBe()", 127).does("meet(0, false)", 2).asks("couldBe()", 126);
         x.does("meet(2, true)", 3).asks("couldBe()", 4).does("meet(2, false)", 4).asks("couldBe()", 0).does("tear()", 4).asks("couldBe()", 255);
@@ -99,6 +101,7 @@ public final class MetEdges {
     private static void askNone() {
         Sheet.holds("NONE: none parts them.");
         Lens.of("c2;").asks("ask()", NONE);
+        Sheet.holds("`int ask()`: ASK; NONE.");
         Lens.of("c2;s2 9;").asks("ask()", NONE);
         Lens x = Lens.of("c2;s2 9;s2 8;s2 7;");
         x.does("chip(1, 50)", 1).asks("couldBe()", 7).asks("ask()", NONE).does("meet(1, false)", 1).asks("couldBe()", 0).asks("ask()", NONE);
@@ -136,6 +139,7 @@ public final class MetEdges {
     private static void wrong() {
         Sheet.holds("WRONG: the first that is otherwise now; NONE.");
         Lens.of("c2;").asks("judge()", NONE);
+        Sheet.holds("`int judge()`: WRONG; NONE.");
         Lens x = Lens.of("c2;s2 9;s2 8;");
         x.asks("judge()", NONE).calls("write(0, 1)", "write(1, 1)", "write(0, 0)");
         x.asks("judge()", 0).does("chip(1, 5)", 1).asks("judge()", 0).does("chip(1, 6)", 2).asks("judge()", 2).does("wipe(1)", 1).asks("judge()", 0);
@@ -352,13 +356,13 @@ public final class MetEdges {
         x.calls("wear(5)", "year(25)");
         Lens y = x.again();
         x.layer(9, 1, 5, 25).is("told(6)", 10).is("told(12)", 20);
-        x.calls("wipe(9)", "chip(0, 60)", "wear(4)", "year(21)");
-        x.does("undo(24)", 25).layer(9, 1, 5, 25).is("wearer(5, 1)", 25).is("wearer(4, 1)", 0).is("told(5)", 5);
+        x.calls("year(2)", "wipe(9)", "chip(0, 60)", "wear(4)", "year(21)");
+        x.does("undo(26)", 25).layer(9, 1, 5, 25).is("wearer(5, 1)", 25).is("wearer(4, 1)", 0).is("told(5)", 5);
         for (int i = 0; i < 20; i++) {
             x.logged(i, 24 - i, 5, 1, 0);
         }
         y.does("keep(0)", 1);
-        y.calls("wipe(9)", "chip(0, 60)", "wear(4)", "year(21)");
+        y.calls("year(2)", "wipe(9)", "chip(0, 60)", "wear(4)", "year(21)");
         y.does("goBack(0)", 1).layer(9, 1, 5, 25).is("wearer(5, 1)", 25).is("wearer(4, 1)", 0).is("told(5)", 5);
         for (int i = 0; i < 20; i++) {
             y.logged(i, 24 - i, 5, 1, 0);

@@ -37,6 +37,7 @@ public final class PairEdges {
         takenOff();
         wiped();
         chipped();
+        strengthsStayWithin();
         Sheet.end();
     }
 
@@ -432,6 +433,7 @@ public final class PairEdges {
             x.asks("wear(" + w + ")", UNKNOWN);
         }
         x.does("wear(5)", NONE).is("told(5)", 5).asks("wear(5)", NOT).asks("wear(-1)", UNKNOWN).asks("wear(6)", UNKNOWN);
+        Sheet.holds("WORN by a WEARER; TAKEN OFF.");
         x.does("wear(0)", 5).is("told(5)", 0).asks("wear(0)", NOT).does("wear(5)", 0).does("takeOff()", 5).does("wear(5)", NONE);
         x.is("told(15)", 5).is("told(4)", 0).is("told(6)", 0).is("wearer(5, 1)", 0);
         Lens none = Lens.of("c9;s0 44;");
@@ -452,6 +454,7 @@ public final class PairEdges {
         for (int k : new int[] {-1, 10, 11, LEAST, MOST}) {
             x.asks("wipe(" + k + ")", UNKNOWN);
         }
+        Sheet.holds("WIPED: a LAYER is gone.");
         x.does("wipe(9)", 9).asks("wipe(9)", UNKNOWN).strengths(1, 2, 3, 4, 5, 6, 7, 8, 9);
         x.does("wipe(0)", 8).strengths(2, 3, 4, 5, 6, 7, 8, 9).does("wipe(3)", 7).strengths(2, 3, 4, 6, 7, 8, 9);
         for (int left = 6; left >= 0; left--) {
@@ -475,5 +478,26 @@ public final class PairEdges {
         }
         Lens full = chips("c9;s2 44;", 9, 9, 9, 9, 9, 9, 9, 9, 9, 9);
         full.asks("chip(0, 0)", OUTSIDE).asks("chip(0, 100)", OUTSIDE).asks("chip(1, 5)", UNKNOWN).does("chip(0, 5)", 10);
+    }
+
+    private static void strengthsStayWithin() {
+        Sheet.holds("of each its SCENE, its WEARER (NONE: a chip), STRENGTH (1 .. 99).");
+        for (int seed = 1; seed < 2000000000; seed += 99999989) {
+            Lens x = Lens.of("c9;s0 99;s1 98;s2 97;s3 96;w0,1;w2,3;w2;");
+            x.call("seed(" + seed + ")");
+            for (int i = 0; i < 8; i++) {
+                x.call("drift(" + (i + 1) + ")");
+                int layers = x.call("told(6)");
+                Sheet.due("told(6) is 10 at most", layers >= 0 && layers <= 10 ? 1 : 0, 1);
+                for (int k = 0; k < layers; k++) {
+                    int strength = x.call("layer(" + k + ", 2)");
+                    int scene = x.call("layer(" + k + ", 0)");
+                    int wearer = x.call("layer(" + k + ", 1)");
+                    Sheet.due("layer(" + k + ", 2) is 1 .. 99", strength >= 1 && strength <= 99 ? 1 : 0, 1);
+                    Sheet.due("layer(" + k + ", 0) is a scene", scene >= 0 && scene < 4 ? 1 : 0, 1);
+                    Sheet.due("layer(" + k + ", 1) is a wearer or NONE", wearer >= NONE && wearer < 3 ? 1 : 0, 1);
+                }
+            }
+        }
     }
 }

@@ -157,6 +157,11 @@ public final class TextEdges {
             fault("c1;s" + kind + " 1;", 2, 4);
         }
         fault("c1;s-1 1;", 1, 4);
+        Sheet.holds("'s' K B ';'");
+        fault("c1;s;", 1, 4);
+        fault("c1;s1;", 1, 5);
+        fault("c1;s1 2 3;", 1, 8);
+        fault("c1;s1 2", 1, 7);
     }
 
     private static void brights() {
@@ -208,6 +213,7 @@ public final class TextEdges {
         for (int n = 1; n <= 6; n++) {
             good(begun + "0" + times(",1", n - 1) + ";", 2).is("wearer(0, 0)", n);
         }
+        Sheet.holds("'w' S {',' S} ';'");
         fault(begun + ";", 1, begun.length());
         fault(begun + ",0;", 1, begun.length());
         fault(begun + "0,;", 1, begun.length() + 2);

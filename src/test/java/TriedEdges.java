@@ -9,6 +9,7 @@ public final class TriedEdges {
 
     public static void main(String[] args) {
         nothingChanges();
+        sets();
         takes();
         dark();
         darkIsRefused();
@@ -65,7 +66,25 @@ public final class TriedEdges {
         }
     }
 
+    private static void sets() {
+        Sheet.holds("A SET is a whole number, bit k for k.");
+        for (int k = 0; k < 8; k++) {
+            Lens x = Lens.of(EIGHT + "w" + k + ";");
+            x.does("wear(0)", NONE).does("year(1)", 1).asks("wearer(0, 2)", 1 << k).asks("told(8)", 1 << k).asks("scene(" + k + ", 3)", 1 << k);
+            x.does("meet(" + k + ", true)", 1).asks("couldBe()", 1 << k);
+        }
+        for (int k = 0; k < 10; k++) {
+            Lens x = Lens.of(EIGHT);
+            for (int i = 0; i < 10; i++) {
+                x.call("chip(0, " + (i == k ? 50 : 1) + ")");
+            }
+            toWipe(x, 2, 1 << k);
+        }
+    }
+
     private static void takes() {
+        Sheet.holds("TAKES: what a SCENE is TAKEN FOR.");
+        chips("c2;s2 9;s2 8;", 1, 50).asks("takes(0)", 1).asks("takes(1)", 1);
         Sheet.holds("`int takes(int x)`: TAKES. UNKNOWN.");
         Lens x = chips("c2;s2 9;s2 8;", 1, 50);
         x.asks("takes(0)", 1).asks("takes(1)", 1);
@@ -330,11 +349,12 @@ public final class TriedEdges {
         x.asks("order(28, 0)", 1).asks("order(28, 1)", 354);
     }
 
-    /** Each order is done on a twin, with wear() and year(1): none may be darker behind it than the one that is told. */
+    /** Each order is done on a twin, with wear() and year(1): none may be less dark behind it than the one that is told. */
     private static void orderByAllOrders() {
         Sheet.holds("by which DARK behind them is least:");
         Lens x = Lens.of("c9;s0 99;s3 14;s3 50;s2 16;s1 30;w3;w4,1;w1;w0,2;w2;w4;");
-        int[] sets = {31, 59, 62, 30, 21, 7, 38, 20, 33};
+        // A small set behind a great one, and low wearers behind high ones: nothing of an earlier question is left.
+        int[] sets = {31, 59, 62, 15, 30, 21, 56, 3, 7, 38, 20, 33};
         for (String deed : new String[] {"chip(0, 1)", "year(1)", "wear(3)", "year(1)", "chip(4, 33)", "chip(2, 12)"}) {
             x.call(deed);
             for (int set : sets) {
@@ -346,6 +366,9 @@ public final class TriedEdges {
         // only by the last of all orders the strong one of kind 3 goes in two odd years
         Lens last = chips("c10;s0 99;s3 14;s3 50;s2 16;s1 3;w3;w4;w1;w0;w2;", 0, 1);
         last.asks("order(31, 0)", 0).asks("order(31, 1)", 54321);
+        // the fourth one's 10 comes to 6 only if he is first: 6, three times 2 and 7 are 19; and five were asked for ahead of these four
+        Lens behind = chips("c2;s1 99;s2 10;s2 10;s2 10;w1;w2;w3;w0;w1;w2;", 1, 7);
+        behind.asks("order(62, 0)", 2).is("order(15, 1)", 4123).is("order(62, 1)", 23456).is("order(15, 0)", 1).is("order(15, 1)", 4123);
     }
 
     private static void everyOrder(Lens x, int left, int figures, String order, int[] best) {
@@ -496,6 +519,9 @@ public final class TriedEdges {
     private static void mist() {
         Sheet.holds("MIST: odds of n YEARS (0 .. 60) without mist, each by q of a hundred (0 .. 100): a BILLION times q / 100 each (cut).");
         Lens x = new Lens();
+        Sheet.holds("BILLION is 1000000000.");
+        x.asks("mist(0, 50)", 1000000000);
+        Sheet.holds("a BILLION times q / 100 each (cut).");
         x.asks("mist(0, 0)", 1000000000).asks("mist(0, 100)", 1000000000).asks("mist(1, 0)", 0).asks("mist(60, 0)", 0);
         x.asks("mist(1, 100)", 1000000000).asks("mist(60, 100)", 1000000000).asks("mist(1, 1)", 10000000).asks("mist(4, 1)", 10).asks("mist(5, 1)", 0);
         x.asks("mist(60, 1)", 0).asks("mist(29, 50)", 1).asks("mist(30, 50)", 0);
