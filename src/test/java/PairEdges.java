@@ -38,6 +38,7 @@ public final class PairEdges {
         wiped();
         chipped();
         strengthsStayWithin();
+        goneLeavesNothing();
         Sheet.end();
     }
 
@@ -498,6 +499,60 @@ public final class PairEdges {
                     Sheet.due("layer(" + k + ", 1) is a wearer or NONE", wearer >= NONE && wearer < 3 ? 1 : 0, 1);
                 }
             }
+        }
+    }
+
+    /** What is asked of a pair of which layers are gone, and of one that never had them. */
+    private static final String[] QUESTIONS = {
+        "only(0, 0)", "only(0, 1)", "only(1, 1)", "only(2, 1)", "toWipe(1, 1)", "toWipe(2, 1)", "toWipe(3, 1)", "takes(0)", "takes(1)",
+        "ground(0)", "ground(1)", "dark(0)", "dark(9)", "tooDark(2)", "willShow(0, 0)", "willShow(1, 3)", "order(3, 0)", "order(3, 1)"};
+
+    private static void goneLeavesNothing() {
+        String text = "c9;s2 20;s0 30;w0;w1,0;";
+        Sheet.holds("WIPED: a LAYER is gone.");
+        for (int kept = 0; kept <= 9; kept++) {
+            Lens used = Lens.of(text);
+            Lens made = Lens.of(text);
+            for (int k = 0; k < 10; k++) {
+                String chip = "chip(" + k % 2 + ", " + (k < kept ? 16 + k : 60 + k) + ")";
+                used.call(chip);
+                if (k < kept) {
+                    made.call(chip);
+                }
+            }
+            for (int k = 9; k >= kept; k--) {
+                used.call("wipe(" + k + ")");
+            }
+            sameAnswers(used, made);
+        }
+        Sheet.holds("One that has come to 0 is gone.");
+        Lens used = chips(text, 17, 18);
+        used.calls("chip(1, 2)", "chip(1, 1)", "chip(1, 2)", "year(2)");
+        Lens made = chips(text, 17, 18);
+        made.call("year(2)");
+        sameAnswers(used, made);
+        Sheet.holds("all of section 2 is as ahead of them;");
+        Lens undone = chips(text, 17, 18, 60, 61, 62);
+        undone.call("undo(3)");
+        sameAnswers(undone, chips(text, 17, 18));
+    }
+
+    private static void sameAnswers(Lens used, Lens made) {
+        for (String question : QUESTIONS) {
+            used.is(question, made.call(question));
+        }
+        // he lays his own anew: nothing of a layer that is gone is his
+        for (Lens x : new Lens[] {used, made}) {
+            x.calls("wear(1)", "year(3)");
+        }
+        for (int k = 0; k < 10; k++) {
+            for (int what = 0; what < 3; what++) {
+                String layer = "layer(" + k + ", " + what + ")";
+                used.is(layer, made.call(layer));
+            }
+        }
+        for (String question : QUESTIONS) {
+            used.is(question, made.call(question));
         }
     }
 }

@@ -29,6 +29,7 @@ public final class TextEdges {
         emptyText();
         becomesTheLine();
         lineBehindLine();
+        shortBehindLong();
         faultLeavesAll();
         letterOfTheLatest();
         Sheet.end();
@@ -436,6 +437,23 @@ public final class TextEdges {
         x.does("meet(2, true)", 1).does("write(2, 2)", 1).does("year(1)", 1);
         x.feed("c6;s3 7;");
         x.does("line()", 1).is("wearer(0, 0)", UNKNOWN).is("told(2)", 0);
+    }
+
+    /** A text that ends anywhere is read as on a new object, whatever letters an earlier, longer one had behind its end. */
+    private static void shortBehindLong() {
+        Sheet.holds("(it is empty then, with a FAULT, too)");
+        String whole = "c12;s3 45;s0 6;w0 , 1;";
+        for (String letter : new String[] {"9", " ", ";", ",", "0", "s", "w", "x"}) {
+            for (int length = 0; length <= whole.length(); length++) {
+                Lens used = new Lens();
+                used.feed(times(letter, whole.length() + 4));
+                used.call("line()");
+                Lens made = new Lens();
+                used.feed(whole.substring(0, length));
+                made.feed(whole.substring(0, length));
+                used.does("line()", made.call("line()")).is("fault()", made.call("fault()")).isAs(made, "'" + whole.substring(0, length) + "'");
+            }
+        }
     }
 
     private static void faultLeavesAll() {
