@@ -21,6 +21,8 @@ public final class FaceTest {
     private static final String[] RULED_OUT = {
         "throw", "throws", "try", "catch", "finally", "synchronized", "assert", "import", "package", "->", "::",
         "Exact", "System\\.(?!arraycopy)", "Thread", "Random", "hashCode", "toString", "getClass"};
+    private static final Set<String> LIBRARY = Set.of("Math.max", "Math.min", "Integer.bitCount", "System.arraycopy");
+    private static final int MOST_LINES = 60;
     private static int wrong = 0;
 
     public static void main(String[] args) throws IOException {
@@ -111,5 +113,30 @@ public final class FaceTest {
             Matcher m = Pattern.compile(plain ? "\\b" + word + "\\b" : word).matcher(bare);
             check(!m.find(), "the source has " + word);
         }
+        library(bare);
+        lengths(source);
+    }
+
+    /** Names that begin as classes do are the file's own, or of the library that is allowed. */
+    private static void library(String bare) {
+        Set<String> own = new TreeSet<>(Set.of("HandedLens"));
+        for (Class<?> inside : HandedLens.class.getDeclaredClasses()) {
+            own.add(inside.getSimpleName());
+        }
+        Matcher m = Pattern.compile("\\b[A-Z][a-z]\\w*(\\.\\w+)?").matcher(bare);
+        while (m.find()) {
+            check(own.contains(m.group()) || LIBRARY.contains(m.group()), "the source uses " + m.group());
+        }
+    }
+
+    /** A method goes from the line that opens it to the one that closes it, both as far in. */
+    private static void lengths(String source) {
+        Matcher m = Pattern.compile("(?m)^( {4}| {8})(?:[\\w\\[\\]]+ )*(\\w+)\\([^;]*\\) \\{\\R((?:.*\\R)*?)\\1\\}$").matcher(source);
+        int methods = 0;
+        while (m.find()) {
+            methods++;
+            check(m.group(3).lines().count() + 2 <= MOST_LINES, m.group(2) + " is longer than " + MOST_LINES + " lines");
+        }
+        check(methods >= METHODS.length, "only " + methods + " methods were found");
     }
 }
